@@ -63,21 +63,22 @@ public final class SeasonSeat {
 
     private final byte[] tape = new byte[MOST_BYTES];
     private int tapeLength = 0;
-    private int faultKind = 0;
-    private int faultPlace = NONE;
     private Carriage carriage = new Carriage();
     private final Stand now = new Stand();
     private final Stand trial = new Stand();
     private final Past past = new Past();
+    /** What the draws of a journey go on from. */
+    private int drawn = 0;
     private final Tray[] trays = new Tray[TRAYS];
-    private final Image[] images = new Image[IMAGES];
+    /** What the images have; one without a carriage was not made yet. */
+    private final Carriage[] imageCarriages = new Carriage[IMAGES];
+    private final Stand[] imageStands = new Stand[IMAGES];
     private final Reader reader = new Reader();
     private final Seatings seatings = new Seatings();
     private final Climate climate = new Climate(seatings, true);
     /** The laws in seasons and months that are only supposed, so that what is known of the real ones stays. */
     private final Climate supposed = new Climate(seatings, false);
-    private final Settling settling = new Settling();
-    private final Chances chances = new Chances();
+    private final Idling idling = new Idling();
     /** Made when first asked for, as large as the riders need: most carriages never need the largest. */
     private Rows rowsKnown = null;
     private Forcing forcingKnown = null;
@@ -86,8 +87,8 @@ public final class SeasonSeat {
         for (int i = 0; i < trays.length; i++) {
             trays[i] = new Tray();
         }
-        for (int i = 0; i < images.length; i++) {
-            images[i] = new Image();
+        for (int i = 0; i < imageStands.length; i++) {
+            imageStands[i] = new Stand();
         }
         climate.enter(carriage);
         supposed.enter(carriage);
@@ -120,10 +121,8 @@ public final class SeasonSeat {
         }
         tapeLength = 0;
         Carriage told = reader.readAll(tape, n);
-        faultKind = reader.faultKind;
-        faultPlace = reader.faultPlace;
-        if (faultKind != 0) {
-            return TEXT_REFUSED - faultKind;
+        if (reader.faultKind != 0) {
+            return TEXT_REFUSED - reader.faultKind;
         }
         now.begin(told);
         board(told);
@@ -139,9 +138,9 @@ public final class SeasonSeat {
 
     public int fault(int what) {
         if (what == 0) {
-            return faultKind;
+            return reader.faultKind;
         }
-        return what == 1 ? faultPlace : NONE;
+        return what == 1 ? reader.faultPlace : NONE;
     }
 
     public int rider(int r, int what) {
@@ -290,10 +289,10 @@ public final class SeasonSeat {
             return NO_NUMBER;
         }
         trial.copy(now);
-        Draws draws = new Draws(seed);
+        drawn = seed;
         int done = 0;
         for (int i = 0; i < times; i++) {
-            if (act(climate, now, draws.deed()) == 0) {
+            if (act(climate, now, deedDrawn()) == 0) {
                 done++;
             }
         }
@@ -301,6 +300,25 @@ public final class SeasonSeat {
             past.keep(trial);
         }
         return done;
+    }
+
+    private int deedDrawn() {
+        switch (draw(6)) {
+            case 3:
+                return FIRST_RUG + draw(4);
+            case 4:
+                return FIRST_MONTH + draw(MONTHS);
+            case 5:
+                int first = draw(4);
+                return FIRST_GIVE + first * 10 + draw(4);
+            default:
+                return draw(STOP_KINDS);
+        }
+    }
+
+    private int draw(int modulo) {
+        drawn = 1103515245 * drawn + 12345;
+        return modulo < 1 ? 0 : (drawn >>> 16) % modulo;
     }
 
     /** Does one deed as a call of its own: why not, or 0. */
@@ -373,14 +391,14 @@ public final class SeasonSeat {
         if (n < 0 || n > 99999) {
             return NO_NUMBER;
         }
-        return warmthOf(settlingNow().warmBehind(n), r);
+        return warmthOf(settled().warmBehind(n), r);
     }
 
     public int round(int what) {
         if (what < 0 || what > 1) {
             return NO_SUCH;
         }
-        Settling course = settlingNow();
+        Idling course = settled();
         return what == 0 ? course.entry : course.period;
     }
 
@@ -388,12 +406,12 @@ public final class SeasonSeat {
         if (!isWarmth(k)) {
             return NO_NUMBER;
         }
-        return settlingNow().firstWarm(k, carriage.riders);
+        return settled().firstWarm(k, carriage.riders);
     }
 
-    private Settling settlingNow() {
-        settling.follow(lawsNow(), now.warm, now.seating);
-        return settling;
+    private Idling settled() {
+        idling.settle(lawsNow(), now.warm, now.seating);
+        return idling;
     }
 
     private static boolean isWarmth(long k) {
@@ -666,8 +684,8 @@ public final class SeasonSeat {
         if (!isWarmth(k) || n < 0 || n > 6) {
             return NO_NUMBER;
         }
-        chances.draw(lawsNow(), now.warm, now.seating, n);
-        return inLowestTerms(chances.casesWarm(k, carriage.riders), chances.total, what);
+        idling.drawLots(lawsNow(), now.warm, now.seating, n);
+        return inLowestTerms(idling.casesWarm(k, carriage.riders), idling.allCases, what);
     }
 
     public int mean(int n, int what) {
@@ -677,8 +695,8 @@ public final class SeasonSeat {
         if (n < 0 || n > 6) {
             return NO_NUMBER;
         }
-        chances.draw(lawsNow(), now.warm, now.seating, n);
-        return inLowestTerms(chances.warmthInAll(carriage.riders), chances.total, what);
+        idling.drawLots(lawsNow(), now.warm, now.seating, n);
+        return inLowestTerms(idling.warmthInAllCases(carriage.riders), idling.allCases, what);
     }
 
     private static int inLowestTerms(int above, int below, int what) {
@@ -731,7 +749,7 @@ public final class SeasonSeat {
         if (told.isMissing()) {
             return TRAY_MISSING;
         }
-        Settling course = settlingNow();
+        Idling course = settled();
         for (int i = 0; i < told.size; i++) {
             told.put(i, warmthOf(course.warmBehind(i + 1), r));
         }
@@ -739,23 +757,24 @@ public final class SeasonSeat {
     }
 
     public int image(int i) {
-        if (i < 0 || i >= images.length) {
+        if (i < 0 || i >= IMAGES) {
             return NO_SUCH;
         }
-        images[i].carriage = carriage;
-        images[i].stand.copy(now);
+        imageCarriages[i] = carriage;
+        imageStands[i].copy(now);
         return 0;
     }
 
     public int restore(int i) {
-        if (i < 0 || i >= images.length) {
+        if (i < 0 || i >= IMAGES) {
             return NO_SUCH;
         }
-        if (images[i].carriage == null) {
+        Carriage kept = imageCarriages[i];
+        if (kept == null) {
             return NOT_NOW;
         }
-        now.copy(images[i].stand);
-        board(images[i].carriage);
+        now.copy(imageStands[i]);
+        board(kept);
         return 0;
     }
 
@@ -908,11 +927,6 @@ public final class SeasonSeat {
         }
     }
 
-    private static final class Image {
-        private Carriage carriage = null;
-        private final Stand stand = new Stand();
-    }
-
     private static final class Tray {
         private final long[] numbers = new long[MOST_NUMBERS];
         private int sort = 0;
@@ -949,33 +963,6 @@ public final class SeasonSeat {
                 default:
                     numbers[i] = v;
                     break;
-            }
-        }
-    }
-
-    private static final class Draws {
-        private int x;
-
-        private Draws(int seed) {
-            x = seed;
-        }
-
-        private int modulo(int n) {
-            x = 1103515245 * x + 12345;
-            return n < 1 ? 0 : (x >>> 16) % n;
-        }
-
-        private int deed() {
-            switch (modulo(6)) {
-                case 3:
-                    return FIRST_RUG + modulo(4);
-                case 4:
-                    return FIRST_MONTH + modulo(10);
-                case 5:
-                    int first = modulo(4);
-                    return FIRST_GIVE + first * 10 + modulo(4);
-                default:
-                    return modulo(4);
             }
         }
     }
@@ -1656,14 +1643,17 @@ public final class SeasonSeat {
         }
     }
 
-    /** Where all goes if nothing is done for ever. */
-    private static final class Settling {
+    /** What comes if nothing is done: where all settles and, if lots are drawn for draughts, in how many cases. */
+    private static final class Idling {
         private final int[] course = new int[626];
         private final int[] seen = new int[625];
         private int entry = 0;
         private int period = 1;
+        private int[] cases = new int[625];
+        private int[] later = new int[625];
+        private int allCases = 1;
 
-        private void follow(Climate laws, int warm, int seating) {
+        private void settle(Climate laws, int warm, int seating) {
             Arrays.fill(seen, NONE);
             int next = warm;
             // There are 625 ways of being warm at most, so one comes again by then.
@@ -1692,37 +1682,31 @@ public final class SeasonSeat {
             }
             return NONE;
         }
-    }
 
-    /** In how many of the cases of drawn lots all are how warm. */
-    private static final class Chances {
-        private int[] cases = new int[625];
-        private int[] later = new int[625];
-        private int total = 1;
-
-        private void draw(Climate laws, int warm, int seating, int n) {
+        private void drawLots(Climate laws, int warm, int seating, int n) {
             Arrays.fill(cases, 0);
             Arrays.fill(later, 0);
-            total = 1;
+            allCases = 1;
             if (warm < 0 || warm >= cases.length) {
                 return;
             }
             cases[warm] = 1;
+            int riders = laws.carriage.riders;
             for (int i = 0; i < n; i++) {
-                for (int from = 0; from < POWERS[laws.carriage.riders]; from++) {
+                for (int from = 0; from < POWERS[riders]; from++) {
                     if (cases[from] != 0) {
-                        drawLots(cases[from], laws.behind(from, seating), laws.carriage.riders);
+                        addLots(cases[from], laws.behind(from, seating), riders);
                         cases[from] = 0;
                     }
                 }
                 int[] spent = cases;
                 cases = later;
                 later = spent;
-                total *= LOTS;
+                allCases *= LOTS;
             }
         }
 
-        private void drawLots(int times, int warm, int riders) {
+        private void addLots(int times, int warm, int riders) {
             for (int lot = 0; lot < LOTS; lot++) {
                 int next = warm;
                 if (lot < riders && warmthOf(warm, lot) > 0) {
@@ -1737,14 +1721,14 @@ public final class SeasonSeat {
         private int casesWarm(int k, int riders) {
             int sum = 0;
             for (int warm = 0; warm < POWERS[riders]; warm++) {
-                if (leastOf(warm, riders) >= k) {
+                if (cases[warm] != 0 && leastOf(warm, riders) >= k) {
                     sum += cases[warm];
                 }
             }
             return sum;
         }
 
-        private int warmthInAll(int riders) {
+        private int warmthInAllCases(int riders) {
             int sum = 0;
             for (int warm = 0; warm < POWERS[riders]; warm++) {
                 if (cases[warm] != 0) {
@@ -1867,7 +1851,7 @@ public final class SeasonSeat {
         }
 
         private int firstWarm(int k) {
-            for (int stand = 0; stand < known; stand++) {
+            for (int stand = 0; stand < known && stand < codes.length; stand++) {
                 if (isWarm(stand, k)) {
                     return stand;
                 }
@@ -1983,7 +1967,7 @@ public final class SeasonSeat {
 
         private int greatestWarmth(int r) {
             int greatest = 0;
-            for (int stand = 0; stand < known && greatest < MOST_WARMTH; stand++) {
+            for (int stand = 0; stand < known && stand < codes.length && greatest < MOST_WARMTH; stand++) {
                 greatest = Math.max(greatest, warmthOf(warmOf(stand), r));
                 openTo(stand);
             }
