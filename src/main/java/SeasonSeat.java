@@ -1479,6 +1479,7 @@ public final class SeasonSeat {
         private int[] behinds = new int[0];
         private final int[] warmths = new int[MOST_RIDERS * WARMTHS * MOST_RIDERS * (MOST_HEAT + 1) * 3];
         private final int[] leaves = new int[MOST_RIDERS * WARMTHS * MOST_RIDERS];
+        private final int[] ahead = new int[MOST_RIDERS];
         private final int[] names = new int[10];
         private final int[] pile = new int[80];
 
@@ -1542,9 +1543,14 @@ public final class SeasonSeat {
             if (kept && behinds[place] >> 10 == stamp) {
                 return behinds[place] & 1023;
             }
-            int next = 0;
+            int rest = warm;
             for (int r = 0; r < carriage.riders; r++) {
-                next += POWERS[r] * warmthBehind(r, warm, seating);
+                ahead[r] = rest % WARMTHS;
+                rest /= WARMTHS;
+            }
+            int next = 0;
+            for (int r = carriage.riders - 1; r >= 0; r--) {
+                next = next * WARMTHS + warmthBehind(r, seating);
             }
             if (kept) {
                 behinds[place] = stamp << 10 | next;
@@ -1552,7 +1558,8 @@ public final class SeasonSeat {
             return next;
         }
 
-        private int warmthBehind(int r, int warm, int seating) {
+        /** The warmth of a rider behind a stop; ahead has all as they were. */
+        private int warmthBehind(int r, int seating) {
             int seat = seatings.seatOf(seating, r);
             int beside = 0;
             int heat = 0;
@@ -1561,11 +1568,11 @@ public final class SeasonSeat {
                 if (next >= 0 && next < carriage.riders) {
                     int other = seatings.riderIn(seating, next);
                     beside++;
-                    heat += warmthOf(warm, other);
+                    heat += ahead[other];
                     same += seasonOf(seasons, other) == seasonOf(seasons, r) ? 1 : 0;
                 }
             }
-            int own = warmthOf(warm, r);
+            int own = ahead[r];
             if (carriage.warmsLaw == null) {
                 return own + (heat > own * beside ? 1 : 0) - (heat < own * beside ? 1 : 0);
             }
@@ -2048,7 +2055,7 @@ public final class SeasonSeat {
             }
         }
 
-        /** Ranks what is forced one stop ahead of a place: the first one needs one such stop, the second one no other. */
+        /** Ranks what is forced a stop ahead: the first one needs one stop that leads here, the second one no other. */
         private void rankAhead(int place) {
             int turnAhead = 1 - place % 2;
             int edge = firstEdge[place / 2];

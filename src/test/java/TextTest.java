@@ -24,7 +24,7 @@ public final class TextTest {
   }
 
   public static void main(String[] args) {
-    int texts = args.length > 0 ? Integer.parseInt(args[0]) : 6000;
+    int texts = args.length > 0 ? Integer.parseInt(args[0]) : 1200;
     Random random = new Random(42);
     TextMaker maker = new TextMaker(random);
     int[] kinds = new int[5];
