@@ -124,6 +124,9 @@ public final class PromisesTest {
     due.board(x, "train month 0001;");
     due.is("four digits", x.fault(0), 1);
     due.is("four digits", x.fault(1), 12);
+    due.is("six within one another", due.board(x, "train month 1;may : not not not [ [ ( 1 ) = 1 ] ];"), 2);
+    due.is("a seventh", due.board(x, "train month 1;may : not not not [ [ ( ( 1 ) ) = 1 ] ];"), -34);
+    due.is("its place", x.fault(1), 38);
     due.board(x, "train month 1;");
     due.is("none", x.fault(0), 0);
     due.is("none", x.fault(1), -1);
@@ -593,6 +596,10 @@ public final class PromisesTest {
     due.is("the other one keeps it off", oven.forces(3, 1), -1);
     due.is("once", oven.forces(1, 1), 1);
     due.is("four", oven.forces(0, 4), 7);
+    SeasonSeat back = due.riding("train month 0;rider season 0 class 0 warm 0;rider season 0 class 0 warm 0;"
+        + "warms : if seat = rider then 0 else warmth + 1 end;");
+    due.is("behind the first stop", back.forces(0, 1), 1);
+    due.is("the other one brings it back to now", back.forces(0, 2), -1);
     due.promise(34, "best");
     due.is("best(1, 2)", x.best(1, 2), 0);
     due.is("best(2, 3)", x.best(2, 3), 1);
