@@ -6,6 +6,9 @@ final class Due {
 
   void promise(int number, String name) { promise = "promise " + number + ", " + name; }
 
+  /** The sentence of the document that the answers behind it hold. */
+  void says(String where, String sentence) { promise = where + " says \"" + sentence + "\""; }
+
   void is(String call, long got, long want) {
     checked++;
     if (got != want) {
