@@ -19,6 +19,7 @@ public final class AskBoundsTest {
     likeRows();
     rowsBounds();
     keepsBounds();
+    keepsByEachDeed();
     mostBounds();
     standsBounds();
     placingBounds();
@@ -41,6 +42,7 @@ public final class AskBoundsTest {
     chanceLots();
     meanBounds();
     withoutRiders();
+    fromNowOn();
     due.end();
   }
 
@@ -194,6 +196,26 @@ public final class AskBoundsTest {
     due.is("for ever by changes alone", warmed("warms : if seat = rider then 0 else 4 end;may : rider < 2;", 0, 0).keeps(4), -1);
     // The longest, not the first: doing nothing cools at once, the change a stop later.
     due.is("the longest", warmed("warms : if seat = rider then warmth - 2 else warmth - 1 end;", 4, 4).keeps(1), 3);
+  }
+
+  private static void keepsByEachDeed() {
+    due.says("keeps", "NONE: for ever");
+    due.is("by deed 0 alone", warmed("warms : if seat = rider then 4 else 0 end;", 0, 0, 0, 0).keeps(4), -1);
+    // The last rider must go to and fro each time: its warmth, 4 or 3, tells where it was.
+    for (int deed = 1; deed <= 3; deed++) {
+      int[] fours = new int[deed + 1];
+      java.util.Arrays.fill(fours, 4);
+      String law = "warms : if rider < " + deed + " then 4 else if seat = " + deed + " and warmth = 3 then 4 else if seat = " + (deed - 1)
+          + " and warmth = 4 then 3 else 0 end end end;";
+      due.is("by deed " + deed + " alone", warmed(law, fours).keeps(3), -1);
+      due.is("to, but not fro", warmed(law, fours).keeps(4), 0);
+      due.is("to, but not fro", warmed(law + "may : rider < " + deed + " or seat < " + deed + ";", fours).keeps(3), 1);
+    }
+    for (int n = 1; n <= 4; n++) {
+      int[] fours = new int[n];
+      java.util.Arrays.fill(fours, 4);
+      for (int k = 1; k <= 4; k++) due.is(n + " cool down", warmed("warms : warmth - 1;", fours).keeps(k), 4 - k);
+    }
   }
 
   private static void mostBounds() {
@@ -456,6 +478,12 @@ public final class AskBoundsTest {
     due.fill(some, 0, 3);
     due.is("the others can be", some.seasons(0, 1), 12);
     due.is("these SEASONS", some.attempt(0, 1), 1);
+    // Seasons 2 and 3 can be, and all are cold by 2 behind stop 0, which tells them apart; stop 1 does not.
+    SeasonSeat cold = due.riding("train month 0;rider season 2 class 0 warm 2;rider season 3 class 0 warm 2;"
+        + "warms : if not seat = rider then 4 else if rider = 1 then same else if season > 1 then 0 else 2 end end end;");
+    due.fill(cold, 0, 0);
+    due.is("two can be", cold.seasons(0, 0), 12);
+    due.is("seasons that can't be don't count", cold.attempt(0, 0), 0);
     // The stop is made now, not behind the stops that were felt.
     SeasonSeat now = warmed("warms : if seat = rider then if rider = 0 then 2 else warmth + 1 end else if heat = 0 then season else 2 end end;", 2, 0);
     due.fill(now, 0, 2, 2);
@@ -667,6 +695,41 @@ public final class AskBoundsTest {
       }
       due.is("way", none.way(4, -1), -3);
       due.is("rows", none.rows(4, 13), -3);
+    }
+  }
+
+  private static final String[] ASKS = {"round 0", "round 1", "lies 0 3", "when 3", "soonest 3", "soonest 4", "way 4 0", "rows 2 4",
+      "keeps 2", "most 1", "stands", "placing 2 10", "trades 0 0", "glad", "forces 1 4", "best 1 4", "forces 0 4", "chance 2 2 0",
+      "mean 2 0"};
+
+  private static long ask(SeasonSeat x, String told) {
+    String[] parts = told.split(" ");
+    long[] args = new long[parts.length - 1];
+    for (int i = 0; i < args.length; i++) args[i] = Long.parseLong(parts[i + 1]);
+    return Calls.call(x, parts[0], args);
+  }
+
+  /** One who was asked all the time beside ones who were not, behind each deed. */
+  private static void fromNowOn() {
+    due.says("3.", "STOPS from now on");
+    String likes = " likes 1 9 5 3";
+    String warms = "warms : if season = 0 then warmth + 1 else if heat > month then warmth - 1 + seat else heat - class end end;";
+    String three = "train month 3;rider season 0 class 1 warm 0" + likes + ";rider season 1 class 2 warm 3;rider season 2 class 0 warm 1;";
+    String[] texts = {three + warms, three + warms + "may : warmth < 3;", three + "warms : if seat = 0 then warmth + 1 else warmth end;",
+        three + "rider season 0 class 0 warm 4;", three + "rider season 3 class 1;" + warms + "may : seat > 0 or season < 2;"};
+    String[] deeds = {"stop 1", "rug 0", "month 9", "give 0 2", "stop 0", "undo 1", "image 0", "stops 3", "restore 0", "month 3", "stop 2",
+        "journey 5 9", "undo 2"};
+    for (int t = 0; t < texts.length; t++) {
+      SeasonSeat asked = new SeasonSeat();
+      due.board(asked, texts[(t + 1) % texts.length]);
+      for (String told : ASKS) ask(asked, told);
+      due.board(asked, texts[t]);
+      for (int i = 0; i <= deeds.length; i++) {
+        SeasonSeat fresh = due.riding(texts[t]);
+        for (int j = 0; j < i; j++) ask(fresh, deeds[j]);
+        if (i > 0) ask(asked, deeds[i - 1]);
+        for (String told : ASKS) due.is("text " + t + " behind " + i + " deeds: " + told, ask(asked, told), ask(fresh, told));
+      }
     }
   }
 }

@@ -33,6 +33,7 @@ public final class DeedBoundsTest {
     undoneAsAWhole();
     undoneTen();
     undoneAgain();
+    undoneEach();
     whichDeeds();
     judgeBounds();
     judgeThen();
@@ -262,6 +263,9 @@ public final class DeedBoundsTest {
       due.is(truths[i], due.riding(riders(2, "may : " + truths[i] + ";")).why(1), hold[i] ? 0 : 2);
     }
     due.is("within sums", told("2 * if 1 = 1 then 1 else 2 end + 1"), 3);
+    due.is("or within sums", told("0 + 1 * if 1 = 2 or 1 = 1 then 3 else 2 end"), 3);
+    due.is("or within sums", told("1 + 1 * if 1 = 1 or 1 = 2 then 1 else 2 end"), 2);
+    due.is("and within sums", told("1 + 1 * if 1 = 1 and 1 = 2 then 1 else 2 end"), 3);
     due.is("- from the left", told("9 - 4 - 3"), 2);
     due.is("* ahead of +", told("1 + 1 * 2"), 3);
     due.is("* ahead of -", told("9 - 2 * 3"), 3);
@@ -468,6 +472,29 @@ public final class DeedBoundsTest {
     due.is("undo(1)", x.undo(1), -3);
   }
 
+  private static void undone(String name, long... args) {
+    SeasonSeat x = Riding.busy();
+    String call = name + java.util.Arrays.toString(args);
+    long answer = Calls.call(x, name, args);
+    due.is(call + " was done", answer >= 0 && x.count(6) == 5 ? 1 : 0, 1);
+    due.is("undo", x.undo(1), 4);
+    String changed = Look.changed(Riding::busy, x);
+    due.is(call + " undone, left: " + changed, changed.length(), 0);
+  }
+
+  private static void undoneEach() {
+    due.says("UNDONE", "SEASONS, WARMTHS, SEATS, MONTH, STOPS");
+    undone("stop", 0);
+    undone("stop", 1);
+    undone("stops", 1);
+    undone("stops", 99);
+    undone("give", 0, 2);
+    undone("rug", 0);
+    undone("month", 9);
+    undone("perform", 0);
+    for (int seed = 0; seed < 10; seed++) undone("journey", seed, 40);
+  }
+
   /** Whether a number is a deed that can be with so many riders, without a law may. */
   private static boolean isDeed(long v, int n) {
     if (v == 0 || v >= 20 && v <= 29) return true;
@@ -556,6 +583,10 @@ public final class DeedBoundsTest {
     due.is("till one can't be", x.judge(2, 2), 5);
     due.is("till one can't be", x.judge(2, 3), 1);
     due.is("as if done", x.count(2) * 100 + x.seat(0) * 10 + x.count(6), 400);
+    SeasonSeat alone = warmed("", 1);
+    due.fill(alone, 0, 10);
+    due.is("alone", alone.judge(0, 2), 4);
+    due.is("alone", alone.judge(0, 3), 0);
     SeasonSeat none = new SeasonSeat();
     due.fill(none, 0, 0, 20);
     due.is("without riders", none.judge(0, 0), -1);

@@ -12,6 +12,8 @@ public final class TextBoundsTest {
     feedHighestFirst();
     textOf900();
     trainTakesBytes();
+    trainCuts();
+    trainAnew();
     faultsChangeNothing();
     faultAsked();
     monthBounds();
@@ -168,6 +170,67 @@ public final class TextBoundsTest {
     due.is("undo", w.undo(1), -3);
     due.is("month", w.count(1), 1);
     due.is("warmth", w.rider(0, 2), 2);
+  }
+
+  /** A text cut from a tape that goes on: what is behind the first n bytes is not seen. */
+  private static void cut(String tape, int n, int answer, int place) {
+    SeasonSeat x = new SeasonSeat();
+    for (long[] f : Calls.feeds(TextMaker.bytes(tape))) Calls.call(x, "feed", f);
+    due.is(tape + " | train " + n, x.train(n), answer);
+    due.is(tape + " | its place", x.fault(1), place);
+  }
+
+  private static void trainCuts() {
+    due.says("train", "The first n bytes of THE TAPE");
+    cut("train month 1;", 13, -32, 13);
+    cut("train month 12;", 13, -32, 13);
+    cut("train month 12;", 14, -33, 12);
+    cut("train month 1234;", 15, -33, 12);
+    cut("train month 1234;", 16, -31, 12);
+    cut("trains month 1;", 5, -32, 5);
+    cut("trains month 1;", 6, -32, 0);
+    cut("train month 1; ,", 15, 1, -1);
+    cut("train month 1; ,", 16, -31, 15);
+    cut("train month 1;;", 14, 1, -1);
+    cut("train month 1;warms:seats;", 24, -32, 24);
+    cut("train month 1;warms:seats;", 25, -32, 20);
+    StringBuilder blanks = new StringBuilder(HEAD);
+    while (blanks.length() < 895) blanks.append(' ');
+    cut(blanks + "rider", 900, -32, 900);
+    cut(blanks + " ride", 900, -32, 896);
+    cut(blanks + "  123", 900, -32, 897);
+    cut(blanks + " 1234", 900, -31, 896);
+    cut(blanks + "     ", 900, 1, -1);
+    // What an earlier text left behind these bytes is not seen either.
+    SeasonSeat x = new SeasonSeat();
+    for (long[] f : Calls.feeds(TextMaker.bytes("train month 8;rider season 1 class 1;rider"))) Calls.call(x, "feed", f);
+    due.is("earlier", x.train(37), 2);
+    for (long[] f : Calls.feeds(TextMaker.bytes("train month 8;rider "))) Calls.call(x, "feed", f);
+    due.is("later", x.train(20), -32);
+    due.is("its end", x.fault(1), 20);
+  }
+
+  private static void trainAnew() {
+    due.says("train", "The first n bytes of THE TAPE are THE CARRIAGE");
+    String two = HEAD + RIDER + ";" + RIDER + ";";
+    SeasonSeat x = due.riding(two + "warms : 1;may : 1 = 1;");
+    due.is("by", x.by(0, 0), 1);
+    due.is("why", x.why(1), 0);
+    x.stop(1);
+    x.rug(0);
+    due.board(x, two + "warms : 3;may : 0 = 1;");
+    for (int s = 0; s < 2; s++) {
+      due.is("RIDER r sits in SEAT r at first", x.seat(s), s);
+      due.is("its warmth", x.rider(s, 2), 2);
+      due.is("the law warms", x.by(0, s), 3);
+    }
+    due.is("the law may", x.why(1), 2);
+    due.board(x, two);
+    due.is("without warms", x.by(0, 0), 2);
+    due.is("without may", x.why(1), 0);
+    due.board(x, HEAD);
+    due.is("no riders", x.count(0) + x.count(2) + x.count(4), 0);
+    due.is("no riders", x.rider(0, 0), -2);
   }
 
   private static SeasonSeat someTape() {
