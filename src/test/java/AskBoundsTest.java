@@ -13,6 +13,7 @@ public final class AskBoundsTest {
   public static void main(String[] args) {
     liesBounds();
     roundBounds();
+    roundByAllWarmths();
     whenBounds();
     soonestBounds();
     wayBounds();
@@ -43,6 +44,7 @@ public final class AskBoundsTest {
     meanBounds();
     withoutRiders();
     fromNowOn();
+    fromAnotherText();
     due.end();
   }
 
@@ -91,6 +93,25 @@ public final class AskBoundsTest {
         + "if warmth = 4 then 0 else warmth + 1 end else warmth end end;", 0, 0);
     due.is("two riders as digits", lap.round(1), 25);
     due.is("from the start", lap.round(0), 0);
+  }
+
+  /** Each of the 625 ways in which four can be warm comes once, then the first again: no course is longer. */
+  private static void roundByAllWarmths() {
+    due.says("round", "behind how many STOPS all is first as it comes round for ever, 1: behind how many STOPS it does");
+    String sum = "(heat + class + if beside = 2 and warmth > 2 then 2 else 0 end)";
+    SeasonSeat x = due.riding("train month 5;rider season 0 class 1 warm 0;" + "rider season 0 class 0 warm 0;".repeat(3)
+        + "warms : if V > 9 then V - 10 else if V > 4 then V - 5 else V end end;".replace("V", sum));
+    due.is("it comes round from now on", x.round(0), 0);
+    due.is("by all ways", x.round(1), 625);
+    int[] warmths = new int[4];
+    for (int n = 0; n < 626; n++) {
+      // Each call on one object counts, so only the first and the last stops are asked for.
+      if (n < 5 || n > 620) for (int r = 0; r < 4; r++) due.is("lies(" + r + ", " + n + ")", x.lies(r, n), warmths[r]);
+      int[] w = warmths;
+      warmths = new int[] {(w[1] + 1) % 5, (w[0] + w[2] + (w[1] > 2 ? 2 : 0)) % 5, (w[1] + w[3] + (w[2] > 2 ? 2 : 0)) % 5, w[2]};
+    }
+    for (int r = 0; r < 4; r++) due.is("round and round", x.lies(r, 99999), x.lies(r, 99999 % 625));
+    due.is("all are warm once", x.when(4) > 0 ? x.lies(0, x.when(4)) : -1, 4);
   }
 
   private static void whenBounds() {
@@ -731,5 +752,20 @@ public final class AskBoundsTest {
         for (String told : ASKS) due.is("text " + t + " behind " + i + " deeds: " + told, ask(asked, told), ask(fresh, told));
       }
     }
+  }
+
+  /** A carriage of more riders behind one of fewer, asked on the same object: it has more stands than were ever known. */
+  private static void fromAnotherText() {
+    due.says("forces", "FORCING: within how many STOPS, at fewest");
+    SeasonSeat x = warmed(CLOCK, 0);
+    due.is("one rider", x.forces(0, 4), 4);
+    due.is("one rider", x.soonest(4), 4);
+    due.board(x, "train month 5;rider season 0 class 0 warm 0;rider season 1 class 0 warm 0;" + STOVE);
+    due.is("two riders", x.forces(0, 4), 7);
+    due.is("two riders", x.best(1, 4), 1);
+    due.is("two riders", x.soonest(4), 8);
+    due.board(x, "train month 5;rider season 0 class 0 warm 0;" + CLOCK);
+    due.is("one rider again", x.forces(0, 3), 3);
+    due.is("one rider again", x.stands(), 5);
   }
 }

@@ -14,6 +14,7 @@ public final class DeedBoundsTest {
     seatAsked();
     warmthKept();
     besideCounts();
+    besideElsewhere();
     withoutWarms();
     allAtOnce();
     changesBySeats();
@@ -120,6 +121,21 @@ public final class DeedBoundsTest {
     for (int r = 0; r < 4; r++) due.is("same of " + r, same.by(0, r), sames[r]);
     due.is("seats as they are then", same.by(3, 3), 0);
     due.is("seats as they are then", same.by(3, 1), 1);
+  }
+
+  /** The most heat and the most of its season in one seat, then none of either in the next seat, all else being like. */
+  private static void besideElsewhere() {
+    due.says("laws", "heat: all their WARMTHS together, same: how many of them have its SEASON");
+    SeasonSeat x = due.riding("train month 0;rider season 1 class 0 warm 0;rider season 0 class 0 warm 4;rider season 0 class 0 warm 2;"
+        + "rider season 0 class 0 warm 4;warms : if same = 2 and heat = 8 then warmth + 1 else warmth end;");
+    due.is("two of its season, both warm", x.by(0, 2), 3);
+    due.is("stop(3)", x.stop(3), 0);
+    due.is("stop(1)", x.stop(1), 0);
+    due.is("stop(2)", x.stop(2), 0);
+    due.is("the cold one", x.seat(2), 0);
+    due.is("beside it", x.rider(2, 3), 3);
+    due.is("none of its season, cold", x.rider(2, 2), 2);
+    due.is("none of its season, cold", x.by(0, 2), 2);
   }
 
   private static void withoutWarms() {

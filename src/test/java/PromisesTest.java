@@ -377,7 +377,7 @@ public final class PromisesTest {
     due.is("lies(3, -1)", x.lies(3, -1), -2);
     due.is("lies(0, -1)", x.lies(0, -1), -3);
     due.is("lies(0, 100000)", x.lies(0, 100000), -3);
-    // Four riders as digits of a clock: it comes round only behind 625 stops.
+    // Two riders as digits of a clock: it comes round only behind 25 stops.
     SeasonSeat clock = due.riding("train month 0;rider season 0 class 0 warm 3;rider season 0 class 0 warm 0;"
         + "warms : if rider = 0 then if warmth = 4 then 0 else warmth + 1 end "
         + "else if heat = 4 then if warmth = 4 then 0 else warmth + 1 end else warmth end end;");
